@@ -241,12 +241,18 @@ public final class StepperPlanner {
             return BAD_VALUE;
         }
         Ramp present = presentRamp();
-        for (int length = GREATEST; length > 0; length--) {
+        int fits = 0;
+        int tooLong = GREATEST + 1;
+        // A longer move has all the intervals of a shorter one and more.
+        for (int round = 0; round < GREATEST && tooLong - fits > 1; round++) {
+            int length = (fits + tooLong) / 2;
             if (present.ticksOfMove(length) <= ticks) {
-                return length;
+                fits = length;
+            } else {
+                tooLong = length;
             }
         }
-        return NONE;
+        return fits > 0 ? fits : NONE;
     }
 
     // ---- scripts, random speeds
@@ -650,25 +656,40 @@ public final class StepperPlanner {
             if (before == 0) {
                 left = lengthOf(0);
             }
-            int used = 0;
-            for (int more = Math.min(mostSteps, left); more > 0; more--) {
-                int next = nextIndex(ramp.top);
-                int interval = ramp.intervalOf(next);
-                if (interval > mostTicks - used) {
-                    break;
-                }
-                used += interval;
-                index = next;
-                made++;
-                left--;
+            // The dearest predictions pass over many whole moves, whose ticks are known without their steps.
+            if (before == 0 && left <= mostSteps && ramp.ticksOfMove(left) <= mostTicks) {
+                passWholeMove(ramp);
+            } else {
+                makeSteps(ramp, Math.min(mostSteps, left), mostTicks);
             }
-            ticks += used;
             int steps = made - before;
             moveAxes(before);
             if (left == 0) {
                 dropItem(0);
             }
             return steps;
+        }
+
+        private void passWholeMove(Ramp ramp) {
+            ticks += ramp.ticksOfMove(left);
+            made = left;
+            left = 0;
+        }
+
+        private void makeSteps(Ramp ramp, int mostSteps, int mostTicks) {
+            int ticksAllowed = mostTicks;
+            for (int i = 0; i < mostSteps; i++) {
+                int next = nextIndex(ramp.top);
+                int interval = ramp.intervalOf(next);
+                if (interval > ticksAllowed) {
+                    break;
+                }
+                ticksAllowed -= interval;
+                index = next;
+                made++;
+                left--;
+            }
+            ticks += mostTicks - ticksAllowed;
         }
 
         private int nextIndex(int top) {
