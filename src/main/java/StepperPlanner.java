@@ -405,7 +405,7 @@ public final class StepperPlanner {
 
         /** T(n + 1), if the root is T(n). */
         static int rootAfter(int acceleration, int n, int root) {
-            // The exact root of n + 1 is less than that of n by the factor 1 + 1 / (2 * n).
+            // The exact root of n + 1 is less than 1 + 1 / (2 * n) times that of n.
             int start = n < 1 ? GREATEST_ROOT : root + 1 + (root + 1) / (2 * n);
             return root(acceleration, n + 1, start);
         }

@@ -154,6 +154,13 @@ public final class PredictionsTest {
         Check.due("leastAcceleration(1, 1)", p.leastAcceleration(1, 1), NONE);
         Check.due("leastAcceleration(999, 99999)", p.leastAcceleration(999, 99999), 40);
         Check.due("leastAcceleration(999, 49949)", p.leastAcceleration(999, 49949), NONE);
+        Check.due("leastAcceleration(8, 1788)", p.leastAcceleration(8, 1788), 999);
+        Check.due("leastAcceleration(8, 1787)", p.leastAcceleration(8, 1787), NONE);
+        Check.due("leastAcceleration(85, 6252)", p.leastAcceleration(85, 6252), 999);
+        p.setSpeedLimit(20);
+        // T(1) is 707 from 399 on, and longer than the cruise interval.
+        Check.due("leastAcceleration(2, 1414)", p.leastAcceleration(2, 1414), 399);
+        p.undo();
         p.setAcceleration(1);
         Check.due("leastAcceleration(5, 5000): not the present one", p.leastAcceleration(5, 5000), 80);
         p.setSpeedLimit(1);

@@ -171,6 +171,9 @@ public final class SetupTextTest {
         p.step();
         p.save(0);
         p.save(1);
+        p.addMove(-40, 30);
+        p.run(2000);
+        p.positionAfter(0, 500);
         Check.type(p, "a100v200");
         Check.due("load()", p.load(), 0);
         Check.due("queueLength()", p.queueLength(), 0);
