@@ -55,6 +55,8 @@ public final class EdgeRampTest {
         Calls.play("setSpeedLimit(999) setAcceleration(407) interval(0)=700 setAcceleration(921) interval(0)=465");
         // floor(200000000 * 9 / 899) is 1415 * 1415 - 1, and T(8) = 1334, T(10) = 1491.
         Calls.play("setSpeedLimit(999) setAcceleration(899) interval(8)=80 interval(9)=77");
+        // 200000000 * 879 / 5 is 187510 * 187510 - 100.
+        Calls.play("setSpeedLimit(999) setAcceleration(5) interval(878)=106 interval(879)=107");
     }
 
     /** "at most floor(200000000 * n / a)": quotients with a fraction, whose whole part is a square. */

@@ -23,6 +23,7 @@ public final class EdgeTextTest {
         numbersOfTheSetup();
         loadOfATextThatIsNoSetup();
         loadReplacesAndSetsTo0();
+        loadAfterPredictions();
         loadInAMove();
         loadOfNoItemsAndOfEight();
         loadForgetsAndEmpties();
@@ -211,6 +212,16 @@ public final class EdgeTextTest {
             "position(0)=100002 position(1)=99998 type(a200v010m+000-001) load()=1 position(0)=100000",
             "position(1)=100000 clock()=0 queueLength()=1 itemAt(0)=1 itemAt(1)=NO_SUCH_INDEX interval(0)=1000",
             "setAcceleration(9)=200 setSpeedLimit(9)=10 step()=4714 position(1)=99999");
+    }
+
+    /** The same after predictions, which have seen other positions, a later clock and other items. */
+    private static void loadAfterPredictions() {
+        Calls.play("addMove(9,-9) addWait(8) addMove(2,1) 3*step() ticksLeft()=6377 positionAfter(1,9)=99997",
+            "runScript(2,20011005)=NONE randomSpeeds(5,7) type(a200v010m+002-001) load()=1 position(0)=100000",
+            "position(1)=100000 clock()=0 queueLength()=1 rampIndex()=NONE itemAt(0)=2 itemAt(1)=NO_SUCH_INDEX",
+            "ticksLeft()=2000 step()=1000 position(0)=100001 position(1)=99999 clock()=1000");
+        Calls.play("addMove(9,-9) 3*step() positionAfter(0,1000)=100005 errorPosition()=0 type(a200v010) load()=0",
+            "position(0)=100000 position(1)=100000 clock()=0 queueLength()=0 rampIndex()=NONE stop()=NOT_POSSIBLE");
     }
 
     /** "No move is in progress then." */

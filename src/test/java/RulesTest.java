@@ -12,11 +12,11 @@ import java.util.regex.Pattern;
 
 /** The face of the document, what of LANGUAGE.md can be seen from outside or in the text, and the room of a run. */
 public final class RulesTest {
-    private static final String FACE = "append(int) clearText() errorPosition() load() position(int) clock() queueLength()"
-        + " itemAt(int) rampIndex() topIndex() interval(int) approximateInterval(int) setAcceleration(int)"
-        + " setSpeedLimit(int) addMove(int,int) addWait(int) step() run(int) stop() removeItem(int) undo() ticksLeft()"
-        + " moveTicks(int) positionAfter(int,int) leastAcceleration(int,int) greatestLength(int) runScript(int,long)"
-        + " randomSpeeds(long,int) save(int) restore(int)";
+    private static final String FACE = "append(int) clearText() errorPosition() load() position(int) clock()"
+        + " queueLength() itemAt(int) rampIndex() topIndex() interval(int) approximateInterval(int)"
+        + " setAcceleration(int) setSpeedLimit(int) addMove(int,int) addWait(int) step() run(int) stop()"
+        + " removeItem(int) undo() ticksLeft() moveTicks(int) positionAfter(int,int) leastAcceleration(int,int)"
+        + " greatestLength(int) runScript(int,long) randomSpeeds(long,int) save(int) restore(int)";
 
     public static void main(String[] args) throws Exception {
         faceIsTheDocuments();
