@@ -657,8 +657,9 @@ public final class StepperPlanner {
                 left = lengthOf(0);
             }
             // The dearest predictions pass over many whole moves, whose ticks are known without their steps.
-            if (before == 0 && left <= mostSteps && ramp.ticksOfMove(left) <= mostTicks) {
-                passWholeMove(ramp);
+            int wholeTicks = ramp.ticksOfMove(left);
+            if (before == 0 && left <= mostSteps && wholeTicks <= mostTicks) {
+                passWholeMove(wholeTicks);
             } else {
                 makeSteps(ramp, Math.min(mostSteps, left), mostTicks);
             }
@@ -670,8 +671,8 @@ public final class StepperPlanner {
             return steps;
         }
 
-        private void passWholeMove(Ramp ramp) {
-            ticks += ramp.ticksOfMove(left);
+        private void passWholeMove(int wholeTicks) {
+            ticks += wholeTicks;
             made = left;
             left = 0;
         }
