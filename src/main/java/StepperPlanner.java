@@ -423,7 +423,7 @@ public final class StepperPlanner {
             return divisor < 1 ? 0 : (int) Math.min(bound, SQUARE_FACTOR / divisor);
         }
 
-        /** The ticks of a move: for each j below its length it has an index j / 2 or the top index, whichever is less. */
+        /** For each j below the length a move has an index j / 2 or the top index, whichever is less. */
         static int ticksOfMove(int acceleration, int cruise, int length) {
             int half = length / 2;
             int n = rampAtLeast(acceleration, cruise, half);
